@@ -159,6 +159,19 @@ public final class ByHandTest {
         Checks.holds(x, "the eldest are forgotten", "10 11||3 4 5|");
         x.setPlaces(12);
         Checks.holds(x, "and stay so", "10 11||3 4 5|");
+        PinnedPantry y = new PinnedPantry();
+        y.fetchAll(0, 1, 6);
+        y.fetchAll(0, 1, 6);
+        y.fetch(10);
+        y.setGoal(6);
+        y.fetchAll(11, 1, 3);
+        y.fetch(14);
+        Checks.holds(y, "before", "10 11 12 13 14|5||0 1 2 3 4");
+        y.eat(10);
+        y.eat(11);
+        y.eat(12);
+        y.setPlaces(3);
+        Checks.holds(y, "the eldest of tried are forgotten", "13 14|5||2 3 4");
     }
 
     private static void setPlacesRefusesWrongInputs() {

@@ -17,6 +17,7 @@ public final class FetchingTest {
         rememberedByNewTurnsTheGoalUp();
         rememberedByTriedTurnsTheGoalDown();
         goalTurnsByTheQuotientOfTheLists();
+        goalTurnsUpByTheQuotientOfTheLists();
         listsForgetTheEldest();
         fetchIsRefusedWhenAllIsPinned();
         fetchAllFetchesOneBehindTheOther();
@@ -174,6 +175,7 @@ public final class FetchingTest {
         x.setGoal(1);
         Checks.due("fetch(0) from the list of tried", x.fetch(0), 3);
         Checks.due("goal", x.count(5), 0);
+        Checks.due("remembered", x.count(8), 1);
         Checks.holds(x, "0 is on tried again", "10|1 2 0|4 3|");
         x.setGoal(2);
         x.fetch(11);
@@ -196,6 +198,20 @@ public final class FetchingTest {
         Checks.holds(x, "1 is back", "15 16|3 4 5 1|10 11 12 13 14|0 2");
         Checks.due("fetch(10)", x.fetch(10), 2);
         Checks.due("the goal went up by 1, as 2 / 5 is less", x.count(5), 5);
+    }
+
+    private static void goalTurnsUpByTheQuotientOfTheLists() {
+        PinnedPantry x = new PinnedPantry();
+        x.fetchAll(0, 1, 6);
+        x.fetchAll(0, 1, 6);
+        x.fetch(10);
+        x.fetch(11);
+        x.setGoal(6);
+        x.fetchAll(12, 1, 4);
+        Checks.holds(x, "five left tried, and one new", "11 12 13 14 15|5|10|0 1 2 3 4");
+        x.setGoal(0);
+        Checks.due("fetch(10)", x.fetch(10), 2);
+        Checks.due("the goal went up by 5 / 1", x.count(5), 5);
     }
 
     private static void listsForgetTheEldest() {

@@ -77,6 +77,8 @@ public final class WhatThereIsTest {
         x.fetch(5);
         Checks.due("ghost(1, 0)", x.ghost(1, 0), 0);
         Checks.refused(x, "ghost(1, 1)", INDEX, () -> x.ghost(1, 1));
+        Checks.refused(x, "ghost(2, 0) by a full list", INDEX, () -> x.ghost(2, 0));
+        Checks.refused(x, "ghost(-1, 0) by a full list", INDEX, () -> x.ghost(-1, 0));
     }
 
     private static void countTellsAll() {
@@ -94,6 +96,8 @@ public final class WhatThereIsTest {
         for (int what = 0; what <= 10; what++) {
             Checks.due("count(" + what + ") later", x.count(what), later[what]);
         }
+        x.pin(1);
+        Checks.due("pinned jars on both shelves", x.count(10), 2);
         Checks.refused(x, "count(11)", INDEX, () -> x.count(11));
         Checks.refused(x, "count(-1)", INDEX, () -> x.count(-1));
     }

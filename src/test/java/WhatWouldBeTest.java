@@ -5,11 +5,14 @@ public final class WhatWouldBeTest {
 
     public static void main(String[] args) {
         nextTellsWhichLeaves();
+        nextGoesByTheGoal();
         nextNeedsAJarThatIsNotPinned();
         wouldTellsWhatFetchTells();
         wouldTellsWhatCannotBeFetched();
         wouldRefusesWrongInputs();
         trialTellsWhatFetchAllTells();
+        trialHeedsTheLists();
+        trialHeedsThePlaces();
         adviseFindsTheFewestPlaces();
         adviseHeedsPinnedJars();
         trialAndAdviseRefuseWrongInputs();
@@ -30,8 +33,20 @@ public final class WhatWouldBeTest {
         x.fetch(2);
         x.fetch(3);
         Checks.due("next(), when all are touched or pinned", x.next(), 0);
-        x.setGoal(6);
-        Checks.due("next(), by another goal", x.next(), 0);
+    }
+
+    private static void nextGoesByTheGoal() {
+        PinnedPantry x = new PinnedPantry();
+        x.setPlaces(4);
+        x.fetchAll(0, 1, 3);
+        x.fetchAll(0, 1, 3);
+        x.fetchAll(4, 39, 2);
+        Checks.holds(x, "three are tried", "3|0 1 2|4|");
+        Checks.due("next() by a goal of 0", x.next(), 3);
+        x.setGoal(2);
+        Checks.due("next() by a goal of 2", x.next(), 0);
+        x.setGoal(1);
+        Checks.due("next() by a goal of 1", x.next(), 3);
     }
 
     private static void nextNeedsAJarThatIsNotPinned() {
@@ -99,6 +114,32 @@ public final class WhatWouldBeTest {
         Checks.due("fetchAll(0, 7, 30)", x.fetchAll(0, 7, 30), told);
     }
 
+    /** Remembered by new or by tried, 0 comes to tried, and stays there till it is a hit. */
+    private static void trialHeedsTheLists() {
+        PinnedPantry x = new PinnedPantry();
+        x.setPlaces(2);
+        x.fetchAll(0, 1, 3);
+        Checks.holds(x, "0 is remembered by new", "1 2||0|");
+        Checks.due("trial(0, 10, 5), remembered by new", x.trial(0, 10, 5), 1);
+        PinnedPantry y = new PinnedPantry();
+        y.setPlaces(2);
+        y.fetchAll(0, 1, 3);
+        y.fetchAll(0, 5, 2);
+        y.setGoal(2);
+        y.fetch(6);
+        y.setGoal(0);
+        Checks.holds(y, "0 is remembered by tried", "5 6||1 2|0");
+        Checks.due("trial(0, 10, 5), remembered by tried", y.trial(0, 10, 5), 1);
+    }
+
+    private static void trialHeedsThePlaces() {
+        PinnedPantry x = new PinnedPantry();
+        x.setPlaces(12);
+        Checks.due("trial(0, 4, 20), a round of 10", x.trial(0, 4, 20), 10);
+        x.setPlaces(2);
+        Checks.due("trial(0, 4, 10), no round", x.trial(0, 4, 10), 0);
+    }
+
     private static void adviseFindsTheFewestPlaces() {
         PinnedPantry x = new PinnedPantry();
         long before = x.digest();
@@ -163,6 +204,9 @@ public final class WhatWouldBeTest {
         Checks.due("mean() without the eaten one", x.mean(), 1.0);
         x.eat(5);
         Checks.due("mean() without jars again", x.mean(), 0.0);
+        x.fetchAll(0, 39, 2);
+        x.fetch(0);
+        Checks.due("mean() of the first and the last kind", x.mean(), 1.5);
     }
 
     private static void digestIsAsTheDocumentSays() {
@@ -175,6 +219,8 @@ public final class WhatWouldBeTest {
         x.setGoal(5);
         x.fetchAll(1, 4, 6);
         Checks.due("tried has given, too", x.count(4) > 0 ? 1 : 0, 1);
+        x.fetch(x.shelf(0, 0));
+        x.fetch(x.shelf(1, 0));
         Checks.due("digest()", x.digest(), digestOf(x));
     }
 
