@@ -1,7 +1,8 @@
-/** Many runs of 512 calls, each answer compared with the model's, and the digest behind each call. */
+/** Many runs of 512 calls: each answer is compared with the model's, and the digest, each second call, too. */
 public final class ModelTest {
-    private static final int RUNS = 400;
-    private static final int CALLS = 512;
+    private static final int RUNS = 800;
+    /** Each one with a call of digest() behind it, so that an object is not used beyond its 512th call. */
+    private static final int STEPS = 256;
 
     private static final String[] NAMES = {"fetch", "fetchAll", "pin", "unpin", "eat", "setPlaces", "setGoal",
         "jar", "shelf", "ghost", "count", "next", "would", "trial", "advise", "mean"};
@@ -26,7 +27,7 @@ public final class ModelTest {
         Model model = new Model();
         int kinds = new int[] {8, 14, 25, 40}[run / 4 % 4];
         int[] weights = run % 4 == 3 ? PINNING : WEIGHTS;
-        for (int call = 0; call < CALLS; call++) {
+        for (int step = 0; step < STEPS; step++) {
             int which = choose(weights);
             int a = argument(which, 0, kinds);
             int b = argument(which, 1, kinds);
@@ -34,7 +35,7 @@ public final class ModelTest {
             long want = modelAnswer(model, which, a, b, c);
             long got = pantryAnswer(pantry, which, a, b, c);
             if (got != want || pantry.digest() != model.digest()) {
-                Checks.fail("run " + run + ", call " + call + ": " + NAMES[which] + "(" + a + ", " + b + ", " + c
+                Checks.fail("run " + run + ", step " + step + ": " + NAMES[which] + "(" + a + ", " + b + ", " + c
                     + ") answered " + got + ", due is " + want + "; digests " + pantry.digest() + ", due "
                     + model.digest());
                 return false;
